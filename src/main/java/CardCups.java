@@ -663,7 +663,7 @@ public final class CardCups {
 
         /** Where the next word, number or sign stands; the text's end, if none does. */
         int nextPlace() {
-            while (at < end && byteAt(at) == ' ') {
+            while (at < end && at < bytes.length && bytes[at] == ' ') {
                 at++;
             }
             return at;
@@ -726,7 +726,7 @@ public final class CardCups {
             int stop = place;
             while (stop < end && isDigit(byteAt(stop))) {
                 // beyond every limit it need not grow, and must not wrap
-                number = Math.min(100_000, number * 10 + byteAt(stop) - '0');
+                number = Math.min(100000, number * 10 + byteAt(stop) - '0');
                 stop++;
             }
             if (stop == place) {
@@ -2087,8 +2087,8 @@ public final class CardCups {
         }
 
         private int draw(int below) {
-            seed = seed * 1_103_515_245 + 12_345;
-            int drawn = seed >>> 16 & 0x7fff;
+            seed = seed * 1103515245 + 12345;
+            int drawn = seed >>> 16 & 32767;
             return below > 0 ? drawn % below : 0;
         }
 

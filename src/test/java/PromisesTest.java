@@ -307,6 +307,13 @@ public final class PromisesTest {
         Check.part("promise 4, FAULTS");
         habitFault("pour;", 1, 0);
         habitFault("putt;", 1, 0);
+        habitFault("putz;", 1, 0);
+        habitFault("aput;", 1, 0);
+        habitFault("put byz 3;", 1, 4);
+        habitFault("put{;", 1, 3);
+        habitFault("put`;", 1, 3);
+        habitFault("put by 3/;", 1, 8);
+        habitFault("put by 3:;", 1, 8);
         habitFault("put", 1, 3);
         habitFault("put  ", 1, 5);
         habitFault("put take;", 1, 4);
