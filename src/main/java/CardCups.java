@@ -126,7 +126,7 @@ public final class CardCups {
     public int habit(int person, int n) throws NoSuchElementException, IllegalArgumentException {
         needPerson(person);
         needBytes(n, MOST_SHORT_BYTES);
-        return readHabit(habitOf(person), n);
+        return readHabit(world.habitOf(person), n);
     }
 
     public int rule(int n) throws IllegalArgumentException {
@@ -200,7 +200,7 @@ public final class CardCups {
         needPerson(person);
         need(isWithin(what, 0, 2));
         switch (what) {
-            case 0: return habitOf(person).steps;
+            case 0: return world.habitOf(person).steps;
             case 1: return diary().visitsOf(person);
             default: return diary().firstOf(person);
         }
@@ -495,9 +495,9 @@ public final class CardCups {
     public int teach(int person, int other) throws NoSuchElementException {
         needPerson(person);
         needPerson(other);
-        habitOf(person).copy(habitOf(other));
+        world.habitOf(person).copy(world.habitOf(other));
         ledger.forget();
-        return habitOf(person).steps;
+        return world.habitOf(person).steps;
     }
 
     public int undo() {
@@ -509,7 +509,7 @@ public final class CardCups {
     }
 
     public int image() {
-        if (imagesKept < 0 || imagesKept >= images.length) {
+        if (imagesKept < 0 || imagesKept >= images.length || images[imagesKept] == null) {
             return NONE;
         }
         images[imagesKept].copy(diary());
@@ -518,13 +518,14 @@ public final class CardCups {
     }
 
     public int restore() {
-        if (imagesKept <= 0 || imagesKept > images.length) {
+        int latest = imagesKept - 1;
+        if (latest < 0 || latest >= images.length || images[latest] == null) {
             return NONE;
         }
-        imagesKept--;
-        diary().copy(images[imagesKept]);
+        diary().copy(images[latest]);
+        imagesKept = latest;
         ledger.forget();
-        return imagesKept;
+        return latest;
     }
 
     public int status(int what) {
@@ -588,11 +589,6 @@ public final class CardCups {
         return Math.min(MOST_PEOPLE, world.office.toldOf(PEOPLE));
     }
 
-    /** The RULE stands in where there is no such PERSON; needPerson() lets no call come so far. */
-    private Habit habitOf(int person) {
-        return isWithin(person, 0, world.habits.length - 1) ? world.habits[person] : world.rule;
-    }
-
     private static long inLeastTerms(long above, long below, int part) {
         if (below <= 0) {
             return part == 0 ? 0 : 1;
@@ -644,9 +640,9 @@ public final class CardCups {
 
         void open(int n) {
             end = Math.max(0, Math.min(n, bytes.length));
-            at = 0;
             faultKind = 0;
             faultAt = NONE;
+            goTo(0);
         }
 
         boolean isFine() {
@@ -663,27 +659,34 @@ public final class CardCups {
 
         /** Where the next word, number or sign stands; the text's end, if none does. */
         int nextPlace() {
-            while (at < end && at < bytes.length && bytes[at] == ' ') {
-                at++;
-            }
             return at;
         }
 
         boolean goesOn() {
-            return isFine() && nextPlace() < end;
+            return faultKind == 0 && at < end;
         }
 
         boolean takeSign(char sign) {
             if (!goesOn() || byteAt(at) != sign) {
                 return false;
             }
-            at++;
+            goTo(at + 1);
             return true;
         }
 
         void needSign(char sign) {
-            if (!takeSign(sign)) {
+            if (goesOn() && byteAt(at) == sign) {
+                goTo(at + 1);
+            } else {
                 refuse(UNFIT, at);
+            }
+        }
+
+        /** Goes on from there, past the blanks. */
+        private void goTo(int place) {
+            at = place;
+            while (at >= 0 && at < end && at < bytes.length && bytes[at] == ' ') {
+                at++;
             }
         }
 
@@ -701,7 +704,7 @@ public final class CardCups {
             for (int i = 0; i < list.length(); i++) {
                 if (list.charAt(i) == ' ') {
                     if (i - start == stop - at && matches(list, start, i)) {
-                        at = stop;
+                        goTo(stop);
                         return answer;
                     }
                     start = i + 1;
@@ -713,7 +716,8 @@ public final class CardCups {
 
         private boolean matches(String list, int start, int stop) {
             for (int i = start; i < stop; i++) {
-                if (i < 0 || i >= list.length() || list.charAt(i) != byteAt(at + i - start)) {
+                int place = at + i - start;
+                if (i < 0 || i >= list.length() || place < 0 || place >= bytes.length || list.charAt(i) != bytes[place]) {
                     return false;
                 }
             }
@@ -721,7 +725,7 @@ public final class CardCups {
         }
 
         int takeNumber(int low, int high) {
-            int place = nextPlace();
+            int place = at;
             int number = 0;
             int stop = place;
             while (stop < end && isDigit(byteAt(stop))) {
@@ -734,10 +738,10 @@ public final class CardCups {
             } else if (number < low || number > high) {
                 refuse(NO_SUCH_NUMBER, place);
             }
-            if (!isFine()) {
+            if (faultKind != 0) {
                 return low;
             }
-            at = stop;
+            goTo(stop);
             return number;
         }
 
@@ -778,19 +782,31 @@ public final class CardCups {
 
         private void setOut() {
             diary.clear();
-            tolds[CUPS_HELD] = 8;
-            tolds[CLEAN_FIRST] = 0;
-            tolds[DIRTY_FIRST] = 0;
-            tolds[CARD_FIRST] = 0;
-            tolds[FALL_ODDS] = 0;
-            tolds[WARM_MINUTES] = 30;
-            tolds[SEE_ODDS] = 12;
-            tolds[PEOPLE] = 0;
-            prices[DIRTY_PRICE] = 9;
-            prices[AGAIN_PRICE] = 1;
-            prices[LOOK_PRICE] = 1;
-            prices[OWN_PRICE] = 3;
-            prices[WAIT_PRICE] = 2;
+            tell(CUPS_HELD, 8);
+            tell(CLEAN_FIRST, 0);
+            tell(DIRTY_FIRST, 0);
+            tell(CARD_FIRST, 0);
+            tell(FALL_ODDS, 0);
+            tell(WARM_MINUTES, 30);
+            tell(SEE_ODDS, 12);
+            tell(PEOPLE, 0);
+            priceAt(DIRTY_PRICE, 9);
+            priceAt(AGAIN_PRICE, 1);
+            priceAt(LOOK_PRICE, 1);
+            priceAt(OWN_PRICE, 3);
+            priceAt(WAIT_PRICE, 2);
+        }
+
+        private void tell(int what, int number) {
+            if (what >= 0 && what < tolds.length) {
+                tolds[what] = number;
+            }
+        }
+
+        private void priceAt(int what, int number) {
+            if (what >= 0 && what < prices.length) {
+                prices[what] = number;
+            }
         }
 
         int toldOf(int what) {
@@ -836,39 +852,39 @@ public final class CardCups {
 
         private boolean isTooMany(int kind, int ahead) {
             return ahead >= MOST_CLAUSES
-                || (kind == PERSON && tolds[PEOPLE] >= MOST_PEOPLE)
+                || (kind == PERSON && toldOf(PEOPLE) >= MOST_PEOPLE)
                 || (kind == COMES && diary.total() >= MOST_VISITS);
         }
 
         private void readNumbers(int kind, Tape tape) {
             switch (kind) {
-                case MACHINE: tolds[CUPS_HELD] = tape.takeNumber(1, MOST_CUPS); break;
+                case MACHINE: tell(CUPS_HELD, tape.takeNumber(1, MOST_CUPS)); break;
                 case CUPS: readCups(tape); break;
-                case CARD: tolds[CARD_FIRST] = tape.takeNumber(0, 1); break;
-                case FALL: tolds[FALL_ODDS] = tape.takeNumber(0, OUT_OF); break;
-                case WARM_FOR: tolds[WARM_MINUTES] = tape.takeNumber(1, 99); break;
-                case SEE: tolds[SEE_ODDS] = tape.takeNumber(0, OUT_OF); break;
+                case CARD: tell(CARD_FIRST, tape.takeNumber(0, 1)); break;
+                case FALL: tell(FALL_ODDS, tape.takeNumber(0, OUT_OF)); break;
+                case WARM_FOR: tell(WARM_MINUTES, tape.takeNumber(1, 99)); break;
+                case SEE: tell(SEE_ODDS, tape.takeNumber(0, OUT_OF)); break;
                 case COST: readPrices(tape); break;
-                case PERSON: tolds[PEOPLE]++; break;
+                case PERSON: tell(PEOPLE, toldOf(PEOPLE) + 1); break;
                 default: readVisit(tape); break;
             }
         }
 
         private void readCups(Tape tape) {
-            int held = tolds[CUPS_HELD];
+            int held = toldOf(CUPS_HELD);
             int clean = tape.takeNumber(0, held);
-            tolds[CLEAN_FIRST] = clean;
-            tolds[DIRTY_FIRST] = tape.takeNumber(0, held - clean);
+            tell(CLEAN_FIRST, clean);
+            tell(DIRTY_FIRST, tape.takeNumber(0, held - clean));
         }
 
         private void readPrices(Tape tape) {
-            for (int i = 0; i < prices.length; i++) {
-                prices[i] = tape.takeNumber(0, 99);
+            for (int i = 0; i < PRICES; i++) {
+                priceAt(i, tape.takeNumber(0, 99));
             }
         }
 
         private void readVisit(Tape tape) {
-            int person = tape.takeNumber(0, tolds[PEOPLE] - 1);
+            int person = tape.takeNumber(0, toldOf(PEOPLE) - 1);
             int minute = tape.takeNumber(0, LAST_MINUTE);
             diary.insert(person, minute);
         }
@@ -953,7 +969,7 @@ public final class CardCups {
             int[] who = people[page()];
             int[] when = minutes[page()];
             int place = visits;
-            while (place > 0 && when[place - 1] > minute) {
+            while (place > 0 && place < MOST_VISITS && when[place - 1] > minute) {
                 when[place] = when[place - 1];
                 who[place] = who[place - 1];
                 place--;
@@ -1099,24 +1115,25 @@ public final class CardCups {
 
         private void readStep(Tape tape) {
             int place = tape.nextPlace();
+            int step = steps;
             int act = tape.takeWordOf(ACTS);
             if (act == NONE) {
                 tape.refuse(UNFIT, place);
                 return;
             }
-            if (steps < 0 || steps >= MOST_STEPS) {
+            if (step < 0 || step >= MOST_STEPS) {
                 tape.refuse(TOO_MANY, place);
                 return;
             }
-            acts[steps] = act;
-            odds[steps] = tape.takeWordOf("by ") == NONE ? 0 : tape.takeNumber(1, OUT_OF);
-            starts[steps] = ordered;
+            acts[step] = act;
+            odds[step] = tape.takeWordOf("by ") == NONE ? 0 : tape.takeNumber(1, OUT_OF);
+            starts[step] = ordered;
             if (tape.takeWordOf("if ") != NONE) {
                 readEither(tape, 0);
             }
-            ends[steps] = ordered;
+            ends[step] = ordered;
             tape.needSign(';');
-            steps++;
+            steps = step + 1;
         }
 
         private void readEither(Tape tape, int open) {
@@ -1225,7 +1242,8 @@ public final class CardCups {
                 return true;
             }
             top = 0;
-            for (int i = starts[step]; i < ends[step] && i < orders.length; i++) {
+            int end = Math.min(ends[step], orders.length);
+            for (int i = Math.max(0, starts[step]); i < end; i++) {
                 int kind = orders[i] / ARGUMENT;
                 int argument = orders[i] % ARGUMENT;
                 if (kind == NUMBER) {
@@ -1310,8 +1328,9 @@ public final class CardCups {
 
         private void readLine(Tape tape) {
             int place = tape.nextPlace();
+            int line = lines;
             int visit = tape.takeNumber(0, MOST_VISITS - 1);
-            if (lines < 0 || lines >= MOST_LINES) {
+            if (line < 0 || line >= MOST_LINES) {
                 tape.refuse(TOO_MANY, place);
                 return;
             }
@@ -1321,11 +1340,11 @@ public final class CardCups {
                 tape.refuse(UNFIT, wordPlace);
                 return;
             }
-            visits[lines] = visit;
-            kinds[lines] = kind;
-            values[lines] = tape.takeNumber(0, kind == MANY ? MOST_CUPS : 1);
+            visits[line] = visit;
+            kinds[line] = kind;
+            values[line] = tape.takeNumber(0, kind == MANY ? MOST_CUPS : 1);
             tape.needSign(';');
-            lines++;
+            lines = line + 1;
         }
 
         boolean tellsOf(int visit) {
@@ -1359,7 +1378,7 @@ public final class CardCups {
     /** All that texts told and changes made of it. */
     private static final class World {
         final Office office = new Office();
-        final Habit[] habits = new Habit[MOST_PEOPLE];
+        private final Habit[] habits = new Habit[MOST_PEOPLE];
         final Habit rule = new Habit();
         final Book book = new Book();
 
@@ -1373,10 +1392,16 @@ public final class CardCups {
         void begin(Office told) {
             office.copy(told);
             for (int i = 0; i < MOST_PEOPLE; i++) {
-                habits[i].clear();
+                habitOf(i).clear();
             }
             rule.clear();
             book.clear();
+        }
+
+        /** The RULE stands in where there is no such PERSON; no call comes so far. */
+        Habit habitOf(int person) {
+            boolean known = person >= 0 && person < habits.length && habits[person] != null;
+            return known ? habits[person] : rule;
         }
     }
 
@@ -1492,14 +1517,15 @@ public final class CardCups {
         }
 
         long partsAt(int place) {
-            return parts[stateAt(place)];
+            int state = stateAt(place);
+            return state >= 0 && state < STATES ? parts[state] : 0;
         }
 
         void add(int state, long more) {
             if (more <= 0 || state < 0 || state >= STATES) {
                 return;
             }
-            if (parts[state] == 0 && size < STATES) {
+            if (parts[state] == 0 && size >= 0 && size < STATES) {
                 list[size] = state;
                 size++;
             }
@@ -1508,7 +1534,10 @@ public final class CardCups {
 
         void clear() {
             for (int i = 0; i < size && i < STATES; i++) {
-                parts[list[i]] = 0;
+                int state = list[i];
+                if (state >= 0 && state < STATES) {
+                    parts[state] = 0;
+                }
             }
             size = 0;
         }
@@ -1552,13 +1581,13 @@ public final class CardCups {
             starter = change == STARTED_BY ? detail : NONE;
             leftOut = change == LEFT_OUT ? detail : NONE;
             for (int p = 0; p < MOST_PEOPLE; p++) {
-                doing[p] = change == BY_RULE ? world.rule : world.habits[p];
+                doing[p] = change == BY_RULE ? world.rule : world.habitOf(p);
             }
             int one = detail / MOST_PEOPLE;
             int other = detail % MOST_PEOPLE;
-            if (change == SWAPPING && one >= 0 && one < MOST_PEOPLE && other >= 0) {
-                doing[one] = world.habits[other];
-                doing[other] = world.habits[one];
+            if (change == SWAPPING && one >= 0 && one < MOST_PEOPLE && other >= 0 && other < MOST_PEOPLE) {
+                doing[one] = world.habitOf(other);
+                doing[other] = world.habitOf(one);
             }
         }
 
@@ -2067,10 +2096,7 @@ public final class CardCups {
                 cups.card = 1 - cups.card;
             }
             int person = office.diary.personOf(visit);
-            if (person < 0 || person >= MOST_PEOPLE) {
-                return;
-            }
-            Habit habit = world.habits[person];
+            Habit habit = world.habitOf(person);
             for (int step = 0; step < habit.steps; step++) {
                 if (isDone(habit, step)) {
                     doAct(habit.actOf(step), office.toldOf(SEE_ODDS));
