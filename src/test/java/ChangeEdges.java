@@ -15,6 +15,7 @@ final class ChangeEdges {
         status();
         count();
         manyCalls();
+        reckonedAnew();
     }
 
     private static void diary(String what, CardCups x, int... due) {
@@ -321,6 +322,48 @@ final class ChangeEdges {
         Check.due("no changes in it", x.count(2), 0);
         x.rule(0);
         Check.due("no bytes", x.count(1), 0);
+    }
+
+    /** Two PEOPLE, three VISITS, an IMAGE of one VISIT less, a change to undo. */
+    private static CardCups small() {
+        CardCups x = Check.made("machine 3;cups 1 1;card 1;fall 2;see 9;person;person;comes 0 0;comes 1 9;",
+            "take;put;look;turn by 9;", "start by 3 if in=2;take;");
+        Check.rule(x, "take;look by 3;");
+        Check.book(x, "1 in 2;");
+        x.image();
+        x.come(0, 8);
+        return x;
+    }
+
+    private static void reckonedAnew() {
+        Check.part("reckoned anew");
+        Twins.Maker small = ChangeEdges::small;
+        Twins.anew("come", small, x -> x.come(1, 3));
+        Twins.anew("skip", small, x -> x.skip(0));
+        Twins.anew("skip the last one", small, x -> x.skip(2));
+        Twins.anew("shift", small, x -> x.shift(2, 0));
+        Twins.anew("shift in its place", small, x -> x.shift(1, 2));
+        Twins.anew("undo", small, x -> x.undo());
+        Twins.anew("restore", small, x -> x.restore());
+        Twins.anew("teach", small, x -> x.teach(0, 1));
+        Twins.anew("habit", small, x -> Check.habit(x, 0, "take by 3;put;"));
+        Twins.anew("no habit", small, x -> Check.habit(x, 1, ""));
+        Twins.anew("rule", small, x -> Check.rule(x, "put;take;start;"));
+        Twins.anew("book", small, x -> Check.book(x, "0 card 1;2 warm 0;"));
+        Twins.anew("no book", small, x -> Check.book(x, ""));
+        Twins.anew("office", small, x -> Check.office(x, "cups 2 3;person;comes 0 1;"));
+        Twins.anew("office alike, of one VISIT less", small, x -> Check.office(x, "machine 3;cups 1 1;card 1;person;person;comes 0 0;"));
+        Twins.anew("a FAULT", small, x -> Check.rule(x, "pour;"));
+        CardCups x = Check.made("person;comes 0 1;comes 0 2;comes 0 3;", "put if visit=1;");
+        Check.due("TRUE three times", x.often(0), 1);
+        x.skip(0);
+        Check.due("TRUE twice", x.often(0), 1);
+        Check.habit(x, 0, "");
+        Check.due("TRUE never", x.often(0), 0);
+        Check.due("from the first one on", x.since(), 0);
+        x.skip(0);
+        x.skip(0);
+        Check.due("no VISITS", x.since(), -1);
     }
 
     /** An object is used for 512 calls: it answers to the last one. */

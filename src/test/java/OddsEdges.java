@@ -1,3 +1,6 @@
+import java.util.ArrayList;
+import java.util.List;
+
 /** Terms 2 and 3, promises 1 and 8 to 38: PARTS where they are cut, none and all of them, ties, and what DAYS DRAW. */
 final class OddsEdges {
     private static final long ONE = Check.ONE;
@@ -87,6 +90,9 @@ final class OddsEdges {
             Check.due("from dirty by " + q, once("fall " + q + ";", "").likely(0, 3), ONE / 16 * q);
             Check.due("from clean by " + q, once("card 1;fall " + q + ";", "").likely(0, 3), ONE / 16 * (16 - q));
         }
+        // turned is not seen, nor is it another STATE
+        Check.due("STATES of one card turned and back", Check.made("card 1;fall 8;person;comes 0 0;comes 0 0;").states(1), 2);
+        Check.due("nothing seen", once("card 1;fall 16;cups 0 1;", "turn if seen=1;").likely(0, 3), 0);
         // ahead of the STEPS, also of VISITS in which nothing is done
         act("fall 16;", "dirty if card=0;", 0, 0, 1);
         act("fall 16;card 1;", "empty if card=1;", 0, 0, 0);
@@ -132,10 +138,26 @@ final class OddsEdges {
         // summed behind each STEP, not at the end alone
         CardCups w = once("cups 1 2;", "take;empty;turn by 1;turn by 1;");
         Check.due("summed", w.likely(0, 3), ONE / 16 - ONE / 256 + (ONE - ONE / 16) / 16);
+        everyKind();
         // an act is done once by PARTS, not by those that come of it
         act("cups 0 0;", "put if in=0;", 0, 1, 0);
         act("cups 0 0;", "put if in=0;put if in=1;", 0, 2, 0);
         act("cups 0 0;", "put if in=1;put if in=0;", 0, 1, 0);
+    }
+
+    /** A sixteenth each of the 16 kinds that a C can tell apart in a VISIT: it is so of the PARTS of its kind alone. */
+    private static void everyKind() {
+        for (int kind = 0; kind < 16; kind++) {
+            String c = "in=" + (1 + (kind & 1)) + " and card=" + (kind >> 1 & 1) + " and warm=" + (kind >> 2 & 1) + " and seen=" + (kind >> 3);
+            CardCups x = once("see 8;cups 0 1;", "put by 8;turn by 8;look;start by 8;empty if " + c + ";");
+            Check.due(c, x.likely(0, 4), ONE / 16);
+            CardCups y = once("see 8;cups 0 1;", "put by 8;turn by 8;look;start by 8;empty if not [" + c + "];");
+            Check.due("not " + c, y.likely(0, 4), ONE / 16 * 15);
+        }
+        CardCups all = Check.made("machine 12;person;comes 0 0;comes 0 0;", Check.times(6, "put by 8;") + "turn if in=3;");
+        // of six by half each 20 of 64 have three, of twelve 220 of 4096
+        Check.due("three of six", all.likely(0, 3), ONE / 64 * 20);
+        Check.due("three of twelve, or of six alone", all.likely(1, 3), ONE / 4096 * (20 * 64 - 20 + 220 - 20));
     }
 
     private static void put() {
@@ -202,6 +224,7 @@ final class OddsEdges {
         Check.due("cut", once("cups 1 2;see 1;", "take;" + habit).likely(0, 3), 45812984490L + 22906492245L);
         Check.due("one PART sees by 16", onePart("cups 1 0;see 16;", "put;look if warm=0;clean if seen=1;").likely(2, 3), 1);
         Check.due("one PART does not by 15", onePart("cups 1 0;see 15;", "put;look if warm=0;clean if seen=1;").likely(2, 3), 0);
+        Check.due("of a HABIT that is a LOOK", once("cups 0 1;", "look;").states(0), 1);
     }
 
     private static void start() {
@@ -232,12 +255,15 @@ final class OddsEdges {
         act("machine 12;cups 5 7;card 1;", "empty;", 0, 0, 1);
         act("machine 12;cups 12 0;", "empty;put;", 0, 1, 0);
         Check.due("still started", once("cups 1 0;", "start;empty;").likely(0, 2), ONE);
+        Check.due("and warm, with none in it", once("cups 1 0;", "start;empty;clean if warm=1 and in=0;").likely(0, 3), ONE);
         Doc.says("CLEAN, DIRTY: the card says so; TURN: it says the other thing.");
         for (int card = 0; card <= 1; card++) {
             act("cups 1 2;card " + card + ";", "clean;", 1, 2, 1);
             act("cups 1 2;card " + card + ";", "dirty;", 1, 2, 0);
             act("cups 1 2;card " + card + ";", "turn;", 1, 2, 1 - card);
             act("cups 1 2;card " + card + ";", "turn;turn;", 1, 2, card);
+            act("cups 1 2;card " + card + ";", "turn;clean if seen=1;dirty if seen=1;", 1, 2, 1 - card);
+            Check.due("STATES turned and back", once("cups 1 2;card " + card + ";", "turn by 8;turn by 8;").states(0), 2);
         }
     }
 
@@ -516,6 +542,8 @@ final class OddsEdges {
         Check.due("warm in two of four", z.filled(1, 0), 2);
         Check.due("never", z.filled(2, 0), 0);
         Check.due("as it is", z.cost(0), 0);
+        CardCups empty = Check.made("person;comes 0 0;comes 0 0;comes 0 0;", "look;");
+        Check.due("none in it, and no PART more", empty.filled(1, 0), 3);
         Doc.says("BEST FILL: the k (1 to N) of the least COST with a STARTER, of these the least.");
         for (int held = 1; held <= 12; held++) {
             // what is in it is washed again, unless k is above it
@@ -659,6 +687,63 @@ final class OddsEdges {
         swap();
         day();
         span();
+        reckonedApart();
+    }
+
+    private static CardCups sixPeople() {
+        CardCups x = Check.made("machine 4;cups 2 1;card 1;fall 3;see 5;person;person;person;person;person;person;"
+            + "comes 0 0;comes 1 0;comes 2 9;comes 3 9;comes 4 20;comes 5 20;",
+            "take;look;", "put;turn by 3;", "look;start if seen=1;", "take by 5;", "put by 9;dirty if in>2;", "start by 2;take;");
+        Check.rule(x, "take;put;look by 3;");
+        return x;
+    }
+
+    private static List<Twins.Use> questions() {
+        List<Twins.Use> all = new ArrayList<>();
+        for (int p = 0; p < 6; p++) {
+            int one = p;
+            all.add(x -> x.without(one, 0));
+            all.add(x -> x.without(one, 1));
+            all.add(x -> x.drunk(one, 0));
+            all.add(x -> x.likely(one, 1));
+            all.add(x -> x.state(one, 1, 1, 0));
+            for (int other = 0; other < 6; other++) {
+                int two = other;
+                if (two != one) all.add(x -> x.swapped(one, two, 0));
+            }
+        }
+        for (int n = 0; n <= 16; n++) {
+            int q = n;
+            all.add(x -> x.falling(q));
+            all.add(x -> x.seeing(q, 0));
+            if (q >= 1 && q <= 12) all.add(x -> x.filled(q, 0));
+        }
+        all.add(x -> x.ruled(0));
+        all.add(x -> x.ruled(1));
+        all.add(x -> x.cost(0));
+        all.add(x -> x.done(0, 0));
+        all.add(x -> x.done(1, 0));
+        all.add(x -> x.fits(0));
+        all.add(x -> x.since());
+        all.add(x -> x.often(0));
+        return all;
+    }
+
+    /** Each question is answered alike, whatever was asked ahead of it. */
+    private static void reckonedApart() {
+        Check.part("reckoned apart");
+        List<Twins.Use> all = questions();
+        CardCups forth = sixPeople();
+        CardCups back = sixPeople();
+        long[] alone = new long[all.size()];
+        for (int i = 0; i < alone.length; i++) {
+            alone[i] = all.get(i).answer(sixPeople());
+            Check.due("question " + i + " behind those ahead", all.get(i).answer(forth), alone[i]);
+        }
+        for (int i = alone.length - 1; i >= 0; i--) {
+            Check.due("question " + i + " behind those after", all.get(i).answer(back), alone[i]);
+            Check.due("question " + i + " again", all.get(i).answer(forth), alone[i]);
+        }
     }
 
     private static void newObject() {
@@ -784,6 +869,10 @@ final class OddsEdges {
         fraction("no dirty ones", x.mean(0, 1, 0), x.mean(0, 1, 1), 0, 1);
         CardCups y = once("machine 12;cups 0 12;", "empty by 2;");
         fraction("21 by 2 dirty ones", y.mean(0, 1, 0), y.mean(0, 1, 1), 21, 2);
+        CardCups both = once("cups 1 2;", "turn by 4;put by 4;take by 8 if in=4;");
+        fraction("of both cards, clean ones", both.mean(0, 0, 0), both.mean(0, 0, 1), 31, 32);
+        CardCups clean = once("cups 1 2;card 1;", "");
+        fraction("of the clean card", clean.mean(0, 1, 0), clean.mean(0, 1, 1), 2, 1);
         CardCups z = onePart("cups 1 0;", "put if warm=0;");
         fraction("one PART of a dirty one", z.mean(2, 1, 0), z.mean(2, 1, 1), 1, ONE);
         fraction("a clean one", z.mean(2, 0, 0), z.mean(2, 0, 1), 1, 1);
@@ -828,6 +917,8 @@ final class OddsEdges {
         fraction("who does not come", x.drunk(2, 0), x.drunk(2, 1), 0, 1);
         CardCups one = onePart("cups 1 0;", "put if warm=0;take if warm=0;take if warm=0;");
         fraction("one PART, the clean one first", one.drunk(1, 0), one.drunk(1, 1), 1, ONE);
+        Check.due("it is out then", one.state(2, 0, 0, 0), 1);
+        Check.due("no PART is lost", sumOfAll(one), ONE);
         CardCups six = Check.made(Check.times(6, "person;") + "cups 0 1;comes 5 0;", "", "", "", "", "", "take;");
         fraction("the 6th", six.drunk(5, 0), six.drunk(5, 1), 1, 1);
         fraction("the 5th", six.drunk(4, 0), six.drunk(4, 1), 0, 1);
@@ -930,6 +1021,7 @@ final class OddsEdges {
         for (int q = 0; q <= 16; q++) Check.due("falling " + q, y.falling(q), ONE / 16 * (16 - q));
         Check.due("as it is", y.likely(0, 1), ONE / 16 * 9);
         Check.due("as told: TRUE", Check.made("card 1;person;").falling(16), ONE);
+        nothingElseIsOther();
         Check.due("as told: not", Check.made("person;").falling(0), 0);
         Doc.section("Promise 31");
         Doc.says("COST.");
@@ -970,6 +1062,29 @@ final class OddsEdges {
         fraction("in least terms", s.swapped(0, 1, 0), s.swapped(0, 1, 1), 3, 4);
         fraction("turned round", s.swapped(1, 0, 0), s.swapped(1, 0, 1), 3, 4);
         fraction("as it is", s.cost(0), s.cost(1), 3, 16);
+    }
+
+    /** With another Q, K is as told, and so on: a dirty one by K 5 of 16 seen, a card by Q 3 of 16 clean. */
+    private static void nothingElseIsOther() {
+        String habit = "look;look if seen=1 and card=1;turn if seen=1;";
+        CardCups x = Check.made("machine 2;fall 3;see 5;cost 0 0 16 0 0;cups 0 1;person;person;comes 0 0;", habit, habit);
+        Check.rule(x, habit);
+        for (int n = 0; n <= 16; n++) {
+            // TRUE: it says dirty: fallen and seen, or neither
+            Check.due("K with Q " + n, x.falling(n), ONE / 256 * (n * 5 + (16 - n) * 11));
+            fraction("Q with K " + n, x.seeing(n, 0) * (16 / x.seeing(n, 1)), 16, 256 + 3 * n, 16);
+        }
+        Check.due("Q and K with a STARTER", x.filled(12, 0) * (16 / x.filled(12, 1)), 256 + 15);
+        Check.due("Q and K without another one", x.without(1, 0), ONE / 256 * (15 + 13 * 11));
+        Check.due("Q and K by the RULE", x.ruled(0), ONE / 256 * (15 + 13 * 11));
+        Check.due("Q and K of those swapped", x.swapped(0, 1, 0) * (16 / x.swapped(0, 1, 1)), 256 + 15);
+        Check.due("Q and K as it is", x.cost(0) * (16 / x.cost(1)), 256 + 15);
+        // a STARTER by 1 to 5 would wash the clean ones again
+        CardCups y = Check.made("machine 12;cups 5 0;person;person;comes 0 0;");
+        for (int n = 0; n <= 16; n++) Check.due("no STARTER with K " + n, y.seeing(n, 0), 0);
+        Check.due("no STARTER without another one", y.without(1, 1), 0);
+        Check.due("no STARTER by the RULE", y.ruled(1), 0);
+        Check.due("no STARTER of those swapped", y.swapped(0, 1, 0), 0);
     }
 
     private static void swap() {

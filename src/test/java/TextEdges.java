@@ -324,6 +324,17 @@ final class TextEdges {
         Check.illegal("151 bytes of a HABIT", () -> x.habit(0, 151));
         Check.illegal("151 bytes of a RULE", () -> x.rule(151));
         Check.due("150 bytes of a TAPE with more", x.habit(0, 150), 0);
+        // of a C as long as 150 bytes can hold, and of one text behind another
+        String longest = "turn if 1" + Check.times(68, "+1") + "=69;";
+        Check.due("a long C", longest.length(), 149);
+        for (int i = 0; i < 30; i++) {
+            Check.due("a long C", Check.habit(x, 0, longest), 1);
+            Check.due("is so", x.likely(0, 3), ONE);
+            Check.due("a long C that is not", Check.habit(x, 0, longest.replace("=69", "<69")), 1);
+            Check.due("is not so", x.likely(0, 3), 0);
+            Check.due("of the RULE", Check.rule(x, longest), 1);
+            Check.due("is so", x.ruled(0), ONE);
+        }
         // the 8th STEP is done, of a HABIT and of the RULE
         CardCups y = Check.made("person;comes 0 0;", Check.times(7, "look;") + "turn;");
         Check.rule(y, Check.times(7, "put;") + "turn;");
@@ -382,6 +393,18 @@ final class TextEdges {
             so("not not " + p + " and not " + q, a && !b);
             so(p + " or " + q + " or " + r, a || b || c);
             so(p + " and " + q + " and " + r, a && b && c);
+        }
+        String[] so = {"1<2", "2>1", "1=1", "not 2<1", "[1<2]"};
+        String[] not = {"2<2", "1>1", "1=2", "not 1<2", "[2<1]"};
+        for (int i = 0; i < so.length; i++) {
+            for (int k = 0; k < so.length; k++) {
+                so(so[i] + " and " + so[k], true);
+                so(so[i] + " and " + not[k], false);
+                so(not[i] + " or " + so[k], true);
+                so(not[i] + " or " + not[k], false);
+            }
+            so("not [" + so[i] + "]", false);
+            so("not [" + not[i] + "]", true);
         }
         so("3<4", true);
         so("4<4", false);
@@ -621,6 +644,11 @@ final class TextEdges {
         officeFault("card 1.0;", 1, 6);
         officeFault("card 1a;", 1, 6);
         officeFault("card 0x1;", 1, 6);
+        for (char digit = '0'; digit <= '9'; digit++) {
+            officeFault("card 1" + digit + ";", 2, 5);
+            officeFault("see 3" + digit + ";", 2, 4);
+            told("see 0" + digit + ";", 6, digit - '0');
+        }
         officeFault("card /;", 1, 5);
         officeFault("card :;", 1, 5);
         officeFault("card \u00b2;", 1, 5);
@@ -647,6 +675,14 @@ final class TextEdges {
         officeFault("card{1;", 1, 4);
         officeFault("card`1;", 1, 4);
         officeFault("`card 1;", 1, 0);
+        for (char letter = 'a'; letter <= 'z'; letter++) {
+            officeFault("card" + letter + " 1;", 1, 0);
+            officeFault(letter + "card 1;", 1, 0);
+            stepsFault("turn" + letter + ";", 1, 0);
+            stepsFault("turn by" + letter + " 3;", 1, 5);
+            stepsFault("turn if in" + letter + "=3;", 1, 8);
+            bookFault("0 in" + letter + " 1;", 1, 2);
+        }
         officeFault("personcomes 0 0;", 1, 0);
         officeFault("person comes 0 0;", 1, 7);
         steps("put by3if1=1or2=2and[not3=3];", 1);
@@ -937,11 +973,8 @@ final class TextEdges {
         Check.due("the first bytes alone", x.office(text.length()), 2);
         Check.due("empty then", x.count(1), 0);
         Twins.alike("as of a new object", RefusalEdges.house(), RefusalEdges.house(), true);
-        CardCups old = RefusalEdges.house();
-        old.rule(0);
-        Check.feed(old, text + "comes 0 20;");
-        Check.due("over an old one", old.office(text.length()), 2);
-        Twins.alike("an OFFICE over an old one", old, officeOf(text), true);
+        Twins.alike("an OFFICE over an old one", anew(text, false), officeOf(text), true);
+        Twins.alike("of which all was asked", anew(text, true), officeOf(text), true);
         CardCups none = RefusalEdges.house();
         Check.due("none of its bytes", none.office(0), 0);
         Twins.alike("an OFFICE without CLAUSES", none, new CardCups(), true);
@@ -951,6 +984,15 @@ final class TextEdges {
         Twins.faulty("2", house, "machine 3;warm 5;person;comes 0 3;see 17;", y -> y.office(41), 2, 38);
         Twins.faulty("3", house, "fall 9;" + Check.times(7, "person;"), y -> y.office(56), 3, 49);
         Twins.faulty("4", house, "person;comes 0 1;machine 3;", y -> y.office(27), 4, 17);
+    }
+
+    /** An OFFICE over one with something of all, of which much was asked ahead of it, or not. */
+    private static CardCups anew(String text, boolean asked) {
+        CardCups old = RefusalEdges.emptyTape();
+        if (asked) Twins.ask(old);
+        Check.feed(old, text + "comes 0 20;");
+        Check.due("over an old one", old.office(text.length()), 2);
+        return old;
     }
 
     private static CardCups officeOf(String text) {

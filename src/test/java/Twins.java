@@ -89,14 +89,29 @@ final class Twins {
     }
 
     private static List<String> all(CardCups x, boolean faultToo) {
-        List<String> answers = new ArrayList<>();
+        List<String> answers = ask(x);
         if (faultToo) ask(answers, "fault", () -> x.fault());
+        behind(answers, x);
+        return answers;
+    }
+
+    /** What can be asked without changing anything. */
+    static List<String> ask(CardCups x) {
+        List<String> answers = new ArrayList<>();
         told(answers, x);
         for (int p = 0; p < x.told(7); p++) person(answers, x, p);
         for (int v = 0; v < Math.min(4, x.told(8)); v++) visit(answers, x, v);
         together(answers, x);
-        behind(answers, x);
         return answers;
+    }
+
+    /** What was reckoned ahead of a change is not answered behind it. */
+    static void anew(String what, Maker maker, Use change) {
+        CardCups asked = maker.made();
+        CardCups other = maker.made();
+        ask(asked);
+        Check.due(what, change.answer(asked), change.answer(other));
+        alike(what, asked, other, true);
     }
 
     private static void told(List<String> answers, CardCups x) {
