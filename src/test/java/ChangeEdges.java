@@ -270,7 +270,7 @@ final class ChangeEdges {
         for (int what : others) Check.due("status " + what, x.status(what), -1);
         Check.due("none yet", x.status(0) + x.status(1), 0);
         x.image();
-        for (int i = 1; i <= 100; i++) {
+        for (int i = 1; i <= 50; i++) {
             Check.missing("VISIT", () -> x.likely(2, 9));
             Check.due("missing", x.status(0), i);
             Check.due("illegal", x.status(1), i - 1);
@@ -278,7 +278,7 @@ final class ChangeEdges {
             Check.due("illegal", x.status(1), i);
         }
         x.restore();
-        Check.due("as it was counted", x.status(0) * 1000 + x.status(1), 100100);
+        Check.due("as it was counted", x.status(0) * 1000 + x.status(1), 50050);
         // what answers -1 or a FAULT is not refused, nor is an OFFICE a new count
         x.restore();
         x.undo();
@@ -286,10 +286,10 @@ final class ChangeEdges {
         Check.office(x, "person;");
         Check.due("status of none is none", x.status(7), -1);
         Check.due("count of none is none", x.count(7), -1);
-        Check.due("as it was counted", x.status(0) * 1000 + x.status(1), 100100);
+        Check.due("as it was counted", x.status(0) * 1000 + x.status(1), 50050);
         for (int i = 0; i < 30; i++) x.feed(0, 0, 0, 0, 0);
         Check.due("a feed too many", x.feed(0, 0, 0, 0, 0), -1);
-        Check.due("is not refused", x.status(0) * 1000 + x.status(1), 100100);
+        Check.due("is not refused", x.status(0) * 1000 + x.status(1), 50050);
     }
 
     private static void count() {

@@ -514,17 +514,28 @@ final class OddsEdges {
         Check.due("2 by one of 16", Check.made(three, "put;", "empty by 8;", "empty by 9;").keeper(), 2);
         Check.due("1 by one of 16", Check.made(three, "put;", "empty by 9;", "empty by 8;").keeper(), 1);
         Check.due("nobody comes", Check.made("person;person;").keeper(), 0);
-        // without 1 the card is TRUE by one PART less: ONE less 1, since 0 turns it for the one PART
-        CardCups part = Check.made("card 1;cups 1 0;person;person;person;comes 0 0;comes 0 0;comes 1 0;comes 2 0;",
-            Check.times(6, "start by 15 if warm=0;"), "", "turn if warm=0 and in=1;");
-        Check.due("by one PART", part.keeper(), 0);
-        Check.due("ONE less 1", part.without(1, 0), ONE - 1);
+        // 0 puts a dirty one in, so that the card is not TRUE but for the one PART that is turned; without 0 it is TRUE
+        Check.due("by one PART, 1", partLeft("turn if warm=0 and in=2;", "").keeper(), 1);
+        Check.due("by one PART, 2", partLeft("", "turn if warm=0 and in=2;").keeper(), 2);
+        CardCups part = partLeft("turn if warm=0 and in=2;", "");
+        Check.due("TRUE without 0", part.without(0, 0), ONE);
+        Check.due("TRUE without 1", part.without(1, 0), 0);
+        Check.due("TRUE without 2", part.without(2, 0), 1);
         Doc.says("SPOILER: without whom the COST is least, of these the first.");
         Check.due("all alike", Check.made(three).spoiler(), 0);
         Check.due("1 and 2 alike", Check.made(three, "look by 7;", "look by 8;", "look by 8;").spoiler(), 1);
         Check.due("2 by one of 16", Check.made(three, "look by 8;", "look by 8;", "look by 9;").spoiler(), 2);
         Check.due("0 of alike ones", Check.made(three, "look by 8;", "look by 8;", "look by 7;").spoiler(), 0);
+        // one PART looks, but without 0 the other one does by all
+        Check.due("by one PART, 1", partLeft("look if warm=0 and in=2;", "look if in=1;").spoiler(), 1);
+        Check.due("by one PART, 2", partLeft("look if in=1;", "look if warm=0 and in=2;").spoiler(), 2);
         Check.due("nobody comes", Check.made("person;person;").spoiler(), 0);
+    }
+
+    /** PERSON 0 leaves one PART cold, and a dirty one in it; then 1 and 2 come. */
+    private static CardCups partLeft(String first, String second) {
+        return Check.made("machine 2;card 1;cups 1 0;person;person;person;comes 0 0;comes 0 0;comes 1 0;comes 2 0;",
+            Check.times(6, "start by 15 if warm=0;") + "put if visit=2;", first, second);
     }
 
     private static void starter() {
@@ -830,9 +841,10 @@ final class OddsEdges {
     /** Of the last VISIT, over all that state() takes. */
     private static long sumOfAll(CardCups x) {
         long sum = 0;
+        int last = x.told(8) - 1;
         for (int clean = 0; clean <= 12; clean++) {
             for (int dirty = 0; dirty <= 12; dirty++) {
-                sum += x.state(x.told(8) - 1, clean, dirty, 0) + x.state(x.told(8) - 1, clean, dirty, 1);
+                sum += x.state(last, clean, dirty, 0) + x.state(last, clean, dirty, 1);
             }
         }
         return sum;
@@ -1132,10 +1144,11 @@ final class OddsEdges {
         Doc.section("Promise 38");
         Doc.says("seed, seed and 1, ..), behind the last VISIT (as told, without VISITS): 0 by how many the card is TRUE,"
             + " 1 dirty ones drunk from in all, 2 the most by one of them.");
-        CardCups x = Check.made("machine 12;cups 5 7;person;comes 0 0;comes 0 0;", "take;take;turn by 8;");
         int[] first = {0, -20, Integer.MAX_VALUE, Integer.MAX_VALUE - 1, Integer.MIN_VALUE};
         for (int seed : first) {
-            for (int many = 1; many <= 40; many += 13) spanOf(x, seed, many);
+            for (int many = 1; many <= 40; many += 13) {
+                spanOf(Check.made("machine 12;cups 5 7;person;comes 0 0;comes 0 0;", "take;take;turn by 8;"), seed, many);
+            }
         }
         CardCups told = Check.made("cups 0 3;person;");
         Check.due("no VISITS: as told", told.span(1, 40, 0), 40);

@@ -327,7 +327,7 @@ final class TextEdges {
         // of a C as long as 150 bytes can hold, and of one text behind another
         String longest = "turn if 1" + Check.times(68, "+1") + "=69;";
         Check.due("a long C", longest.length(), 149);
-        for (int i = 0; i < 30; i++) {
+        for (int i = 0; i < 8; i++) {
             Check.due("a long C", Check.habit(x, 0, longest), 1);
             Check.due("is so", x.likely(0, 3), ONE);
             Check.due("a long C that is not", Check.habit(x, 0, longest.replace("=69", "<69")), 1);
