@@ -9,6 +9,7 @@ public final class EdgesTest {
 
     public static void main(String[] args) throws IOException {
         Doc.read();
+        WholeEdges.all();
         TextEdges.all();
         OddsEdges.all();
         ChangeEdges.all();

@@ -1,4 +1,5 @@
 import java.io.IOException;
+import java.lang.reflect.Array;
 import java.lang.reflect.Constructor;
 import java.lang.reflect.Field;
 import java.lang.reflect.Method;
@@ -7,7 +8,9 @@ import java.nio.file.Files;
 import java.nio.file.Path;
 import java.util.ArrayList;
 import java.util.Arrays;
+import java.util.IdentityHashMap;
 import java.util.List;
+import java.util.Map;
 import java.util.Set;
 import java.util.TreeSet;
 import java.util.regex.Matcher;
@@ -18,7 +21,7 @@ public final class LanguageTest {
     private static final Path SOURCE = Path.of("src/main/java/CardCups.java");
     private static final Path DOC = Path.of("../shared/DOC.md");
 
-    public static void main(String[] args) throws IOException {
+    public static void main(String[] args) throws IOException, IllegalAccessException {
         String source = Files.readString(SOURCE);
         face();
         members();
@@ -26,6 +29,7 @@ public final class LanguageTest {
         signs(source);
         words(source);
         lengths(source);
+        room();
         Check.end();
     }
 
@@ -143,5 +147,81 @@ public final class LanguageTest {
             while (end < lines.length && !lines[end].equals(head.group(1) + "}")) end++;
             if (end - i > 60) Check.wrong("has " + (end - i) + " lines", head.group(2));
         }
+    }
+
+    /** All calls of a run live in one room: the constructor makes few rows, and calls keep nothing more (nor make any: CallsTest). */
+    private static void room() throws IllegalAccessException {
+        Check.part("rule 12");
+        CardCups x = dearest();
+        long[] made = sizeOf(x);
+        for (int i = 0; i < 10; i++) ask(x, i);
+        long[] asked = sizeOf(x);
+        if (made[0] > 1_000 || made[1] > 100_000) Check.wrong("makes " + made[0] + " objects, " + made[1] + " elements", "a constructor");
+        Check.due("objects behind 240 calls", asked[0], made[0]);
+        Check.due("elements behind 240 calls", asked[1], made[1]);
+    }
+
+    /** Objects and arrays that hang on it, and their fields and elements. */
+    private static long[] sizeOf(Object root) throws IllegalAccessException {
+        Map<Object, Object> seen = new IdentityHashMap<>();
+        List<Object> open = new ArrayList<>(List.of(root));
+        long elements = 0;
+        while (!open.isEmpty()) {
+            Object one = open.remove(open.size() - 1);
+            if (seen.put(one, one) != null) continue;
+            List<Object> held = new ArrayList<>();
+            if (one.getClass().isArray()) {
+                elements += Array.getLength(one);
+                if (one instanceof Object[] row) held.addAll(Arrays.asList(row));
+            } else {
+                for (Field f : one.getClass().getDeclaredFields()) {
+                    if (Modifier.isStatic(f.getModifiers())) continue;
+                    f.setAccessible(true);
+                    elements++;
+                    if (!f.getType().isPrimitive()) held.add(f.get(one));
+                }
+            }
+            for (Object h : held) if (h != null) open.add(h);
+        }
+        return new long[] {seen.size(), elements};
+    }
+
+    /** As much of all as there can be. */
+    private static CardCups dearest() {
+        StringBuilder office = new StringBuilder("machine 12;cups 6 6;fall 3;" + "person;".repeat(6));
+        for (int v = 0; v < 24; v++) office.append("comes ").append(v % 6).append(' ').append(v * 9).append(';');
+        String habit = "put by 7;take by 9;look by 8;start by 3 if seen=1 or in>5;turn by 5;put by 9 if warm=0;take by 5;put by 4;";
+        CardCups x = Check.made(office.toString(), habit, habit + " ", "put;take by 3;look;", habit, "start by 1;", habit);
+        Check.rule(x, habit);
+        Check.book(x, "3 warm 0;9 card 1;");
+        return x;
+    }
+
+    /** 24 calls. */
+    private static void ask(CardCups x, int seed) {
+        x.shift(seed, 300);
+        x.image();
+        x.swap();
+        x.fill();
+        x.keeper();
+        x.spoiler();
+        x.ruled(0);
+        x.falling(seed);
+        x.seeing(seed, 0);
+        x.states(23);
+        x.likeliest(23);
+        x.mean(23, 0, 0);
+        x.often(0);
+        x.since();
+        x.best(23);
+        x.worth(23, 2, 0);
+        x.gain(23, 0);
+        x.given(23, 1, 0);
+        x.fits(1);
+        x.day(seed, 23, 0);
+        x.span(seed, 40, 0);
+        x.teach(4, 2);
+        x.undo();
+        x.restore();
     }
 }

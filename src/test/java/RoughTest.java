@@ -20,6 +20,7 @@ public final class RoughTest {
     private final CardCups cups = new CardCups();
     private final Model model = new Model();
     private final StringBuilder told = new StringBuilder();
+    private int asked = 0;
 
     private RoughTest(long seed) {
         random = new Random(seed);
@@ -74,6 +75,9 @@ public final class RoughTest {
     }
 
     private boolean same(Method m, int... numbers) {
+        // what calls answer behind the 512th is free
+        if (asked == 512) return false;
+        asked++;
         Object[] args = new Object[numbers.length];
         for (int i = 0; i < args.length; i++) args[i] = numbers[i];
         told.append(m.getName()).append(Arrays.toString(numbers)).append('\n');
@@ -117,11 +121,13 @@ public final class RoughTest {
     private void go(List<Method> face) {
         String first = "machine " + (1 + random.nextInt(12)) + ";cups 0 1;fall 3;person;person;person;comes 0 5;comes 1 9;comes 0 9;comes 2 480;";
         Check.feed(cups, first);
+        asked = (first.length() + 19) / 20;
         byte[] b = new byte[(first.length() + 19) / 20 * 20];
         for (int i = 0; i < first.length(); i++) b[i] = (byte) first.charAt(i);
         for (byte one : b) model.tape.add(one);
         if (!same(find(face, "office"), first.length())) return;
-        for (int i = 0; i < 120; i++) {
+        int calls = random.nextInt(30) == 0 ? 512 : 120;
+        for (int i = 0; i < calls; i++) {
             int kind = random.nextInt(5);
             boolean fine;
             if (kind == 0) {
