@@ -1507,6 +1507,7 @@ public final class CardCups {
         }
 
         static int numberOf(Cups cups) {
+            // written out once more, since pairOf() would be one call deeper than calls may go
             int all = cups.clean + cups.dirty;
             int pair = all * (all + 1) / 2 + cups.dirty;
             return (((cups.started + 1) * 2 + cups.seen) * 2 + cups.card) * PAIRS + pair;

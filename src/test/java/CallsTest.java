@@ -140,7 +140,7 @@ public final class CallsTest extends TreePathScanner<Void, Void> {
             if (deep > DEEPEST) Check.wrong("goes " + deep + " deep", name);
             if (reach.get(name).contains(name)) recursive(name);
         }
-        Check.due("the deepest", known.values().stream().max(Integer::compare).orElse(0), DEEPEST);
+        if (known.size() < 100) Check.wrong("are all that was found", known.size() + " methods");
     }
 
     private void follow(String name, Set<String> all) {
